@@ -722,8 +722,8 @@ public final class MeltPool {
     }
 
     private void reckonSets() {
+      // Layer 0 never hangs and the top one holds up nothing: these two sets stay empty.
       long held = 0L;
-      support[LAYERS - 1] = 0L;
       for (int layer = LAYERS - 1; layer > 0; layer--) {
         long below = cells[layer - 1];
         hanging[layer] = cells[layer] & ~withNeighbours(below);
@@ -731,7 +731,6 @@ public final class MeltPool {
         held = (held | hanging[layer]) & ~below;
         support[layer - 1] = held;
       }
-      hanging[0] = 0L;
     }
 
     int height() {

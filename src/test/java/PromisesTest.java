@@ -166,6 +166,15 @@ public final class PromisesTest {
     check.due("lay(0, 3)", hall.lay(0, 3), 8);
     check.due("cells below 0", hall.ofLayer(0, 7, 0), 1L);
     check.due("lay(0, 3)", hall.lay(0, 3), 1);
+    hall.layer(0, 1, 0xFFL);
+    check.due("none hang", hall.ofPiece(0, 3), 0);
+    check.due("lay(0, 5)", hall.lay(0, 5), 1);
+    hall.layer(0, 3, at(4, 4));
+    check.due("one hangs", hall.ofPiece(0, 3), 1);
+    check.due("lay(0, 1)", hall.lay(0, 1), 4);
+    check.due("16 hang then", hall.ofPiece(0, 3), 16);
+    check.due("support then", hall.ofPiece(0, 5), 48);
+    check.due("those that hang", hall.ofLayer(0, 3, 1), 0xFFFFL);
     check.refused("lay(1, 0)", hall, IOB, () -> hall.lay(1, 0));
     check.refused("lay(-1, 6)", hall, IOB, () -> hall.lay(-1, 6));
     check.refused("lay(0, 6)", hall, IAE, () -> hall.lay(0, 6));
@@ -553,6 +562,9 @@ public final class PromisesTest {
     check.due("other machine", hall.accept(there), 1);
     check.due("the same one", hall.accept(0), 0);
     otherAlloy();
+    MeltPool near = loaded();
+    near.prove(sawn(near, 399, 20, FULL));
+    check.due("next power, least speed", near.accept(sawn(near, 400, 1, FULL)), 1);
   }
 
   private void otherAlloy() {
@@ -791,16 +803,16 @@ public final class PromisesTest {
     hall.powder(1, 300);
     hall.powder(1, 300);
     hall.load(0, 0);
-    told(hall, 1L);
     grown(hall, 200, 5, 1L);
+    told(hall, 1L);
     hall.unload(0);
-    check.due("recall(0)", hall.recall(0), 2);
+    check.due("recall(0)", hall.recall(0), 1);
     check.due("recall(1)", hall.recall(1), 0);
     hall.blend(1, 0);
     check.due("blending changes no past that was kept", hall.recall(1), 0);
     hall.load(0, 1);
     grown(hall, 200, 5, 1L);
-    check.due("recall(0)", hall.recall(0), 6);
+    check.due("recall(0)", hall.recall(0), 5);
     check.due("recall(1)", hall.recall(1), 4);
     check.refused("recall(2)", hall, IOB, () -> hall.recall(2));
     check.refused("recall(-1)", hall, IOB, () -> hall.recall(-1));
@@ -908,7 +920,7 @@ public final class PromisesTest {
     check.title("promise 29");
     MeltPool hall = loaded();
     told(hall);
-    grown(hall, 210, 5, FULL, at(1, 1), 0L, at(7, 7, 3, 3, 3, 5));
+    grown(hall, 210, 5, FULL, at(1, 1), at(6, 6), 0xFF000000L);
     hall.powder(2, 5);
     long d = 9608;
     for (int what = 0; what < 8; what++) {
@@ -934,7 +946,7 @@ public final class PromisesTest {
     for (int n = 0; n < 10; n++) {
       d = d * 31 + hall.ofMachine(n / 5, n % 5);
     }
-    check.due("curl times 8, cut", (long) (hall.measure(1, 1) * 8), 3L);
+    check.due("curl times 8, cut", (long) (hall.measure(1, 1) * 8), 8L);
     check.due("digest()", hall.digest(), d);
     check.due("digest() again", hall.digest(), d);
     check.due("digest() of a new one", new MeltPool().digest(), 1268384811855260712L);
