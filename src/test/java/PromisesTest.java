@@ -901,6 +901,9 @@ public final class PromisesTest {
     check.due("bestSpeed(0, 159)", hall.bestSpeed(0, 159), 9);
     check.due("bestSpeed(0, 50)", hall.bestSpeed(0, 50), 3);
     check.due("bestSpeed(0, 400)", hall.bestSpeed(0, 400), 20);
+    hall.layer(0, 7, 1L);
+    check.due("of height 8", hall.bestSpeed(0, 160), 10);
+    hall.layer(0, 7, 0L);
     hall.layer(0, 0, 0xFFL);
     hall.layer(0, 1, 0xFFFF000000000000L);
     check.due("those that hang want less, and curl is aside", hall.bestSpeed(0, 240), 15);
