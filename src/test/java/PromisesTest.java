@@ -1,14 +1,8 @@
 /** One method for each promise of the document: ordinary inputs, the named edges, wrong inputs. */
-public final class PromisesTest {
-  private static final Class<IndexOutOfBoundsException> IOB = IndexOutOfBoundsException.class;
-  private static final Class<IllegalArgumentException> IAE = IllegalArgumentException.class;
-  private static final Class<IllegalStateException> ISE = IllegalStateException.class;
+public final class PromisesTest extends Halls {
   private static final int[] WRONG = {Integer.MIN_VALUE, -1, 4, Integer.MAX_VALUE};
   private static final int[] WRONG_POWERS = {49, 401, -200, Integer.MIN_VALUE};
   private static final int[] WRONG_SPEEDS = {0, 21, -5, Integer.MAX_VALUE};
-  private static final long FULL = -1L;
-
-  private final Check check = new Check();
 
   public static void main(String[] args) {
     PromisesTest test = new PromisesTest();
@@ -44,46 +38,6 @@ public final class PromisesTest {
     test.bestSpeed();
     test.digest();
     test.check.end();
-  }
-
-  // ---- halls to begin with
-
-  /** A hall with powder 0 (alloy 1, 2000 grams) in machine 0. */
-  private static MeltPool loaded() {
-    MeltPool hall = new MeltPool();
-    hall.powder(1, 2000);
-    hall.load(0, 0);
-    return hall;
-  }
-
-  private static int told(MeltPool hall, long... layers) {
-    int piece = hall.piece();
-    for (int i = 0; i < layers.length; i++) {
-      hall.layer(piece, i, layers[i]);
-    }
-    return piece;
-  }
-
-  private static int grown(MeltPool hall, int power, int speed, long... layers) {
-    int piece = told(hall, layers);
-    hall.start(0, piece, power, speed);
-    hall.grow(0, 8);
-    return piece;
-  }
-
-  private static int sawn(MeltPool hall, int power, int speed, long... layers) {
-    int piece = grown(hall, power, speed, layers);
-    hall.relieve(piece);
-    hall.saw(piece);
-    return piece;
-  }
-
-  private static long at(int... places) {
-    long set = 0L;
-    for (int i = 0; i < places.length; i += 2) {
-      set |= 1L << places[i] + 8 * places[i + 1];
-    }
-    return set;
   }
 
   // ---- promises 1 to 4: solids
