@@ -5,6 +5,8 @@ public final class EdgesOfAsksTest extends Halls {
   private static final int[] NO_PIECES = {LEAST, -1, 1, 4, MOST};
   /** Its least DEPTH is 1.40625 times ENERGY: 2.0 by 200 / 14, but not by 199 / 14. */
   private static final long[] TELLING = {0L, 1L, 0L, 1L, 1L};
+  /** Its least DEPTH is 1.39453125 times ENERGY: 2.0 by 201 / 14, but not by 200 / 14. */
+  private static final long[] TELLING_TOO = {0L, 1L, 0L, 1L, 0L, 0L, 1L, 1L};
 
   public static void main(String[] args) {
     EdgesOfAsksTest test = new EdgesOfAsksTest();
@@ -622,6 +624,9 @@ public final class EdgesOfAsksTest extends Halls {
     told(hall, TELLING);
     check.due("power 200", hall.bestSpeed(1, 200), 14);
     check.due("power 199", hall.bestSpeed(1, 199), 13);
+    told(hall, TELLING_TOO);
+    check.due("power 200", hall.bestSpeed(2, 200), 13);
+    check.due("power 201", hall.bestSpeed(2, 201), 14);
   }
 
   private void bestSpeedAsItLies() {
@@ -721,6 +726,10 @@ public final class EdgesOfAsksTest extends Halls {
     told(hall, TELLING);
     check.due("bestSpeed(0, 200)", hall.bestSpeed(0, 200), 14);
     check.due("digest()", hall.digest(), unbound(hall).longValue());
+    MeltPool other = new MeltPool();
+    told(other, TELLING_TOO);
+    check.due("bestSpeed(0, 200)", other.bestSpeed(0, 200), 13);
+    check.due("digest()", other.digest(), unbound(other).longValue());
   }
 
   private void digestOfCurl() {
